@@ -11,6 +11,7 @@ public final class BooksTest {
         checkHowMany();
         checkLay();
         checkLayClears();
+        checkLayBehindQuestions();
         checkLayRefused();
         checkPerson();
         checkBequest();
@@ -159,6 +160,24 @@ public final class BooksTest {
             differs |= three.coins(0, year) != eight.coins(0, year);
         }
         CHECKS.isTrue("seeds differ", differs);
+    }
+
+    /** A question ahead of lay may leave nothing of what it tried in what is laid. */
+    private static void checkLayBehindQuestions() {
+        WillsReadFirst x = busy();
+        x.limits(50);
+        x.wipe();
+        Checks.write(x, "p0,9,99,1;");
+        CHECKS.due("lay() behind a question", x.lay(), 1);
+        CHECKS.due("count(2) behind a question", x.count(2), 0);
+        CHECKS.due("person(0, 4) behind a question", x.person(0, 4), 0);
+        WillsReadFirst fresh = Checks.laid("p0,9,99,1;");
+        for (int year = 0; year <= 99; year++) {
+            CHECKS.due("coins(0, " + year + ") behind a question", x.coins(0, year), fresh.coins(0, year));
+        }
+        x.generations(55, 0);
+        x.fault();
+        CHECKS.due("coins(0, 98) behind more", x.coins(0, 98), fresh.coins(0, 98));
     }
 
     private static WillsReadFirst busy() {

@@ -111,6 +111,9 @@ public final class WhatWouldBeTest {
             CHECKS.due("limits(" + pair[0] + ")", x.limits(pair[0]), pair[1]);
         }
         CHECKS.due("having() with their own limits", x.having(), 1);
+        x.reword(1, 50);
+        CHECKS.due("limits(33) behind reword", x.limits(33), 0);
+        CHECKS.due("limits(34) behind reword", x.limits(34), 1);
         int[] wrong = {19, 100, 0, -1, Integer.MAX_VALUE, Integer.MIN_VALUE};
         for (int l : wrong) {
             CHECKS.due("limits(" + l + ")", x.limits(l), -1);

@@ -17,6 +17,7 @@ public final class YearsTest {
         checkFirst();
         checkLongest();
         checkAnswersFollowChanges();
+        checkNothingStaysOfEarlierYears();
         checkWrongNumbers();
         CHECKS.finish();
     }
@@ -77,6 +78,9 @@ public final class YearsTest {
         CHECKS.due("coins(1, 34)", x.coins(1, 34), 25);
         CHECKS.due("brought(0)", x.brought(0), 20);
         CHECKS.due("brought(1)", x.brought(1), 5);
+        WillsReadFirst one = Checks.laid("p0,0,50,0;p0,0,99,0;w0,1,1;g0,1;");
+        CHECKS.due("dies(0), leaving one coin", one.dies(0), 18);
+        CHECKS.due("having(), leaving one coin", one.having(), 1);
         WillsReadFirst nothing = Checks.laid("p0,9,50,0;");
         CHECKS.due("dies(0), leaving nothing", nothing.dies(0), 50);
         CHECKS.due("having(), leaving nothing", nothing.having(), 0);
@@ -213,6 +217,25 @@ public final class YearsTest {
         Checks.write(x, "p1,0,20,0;");
         x.lay();
         CHECKS.due("dies(0) behind lay", x.dies(0), 21);
+    }
+
+    private static void checkNothingStaysOfEarlierYears() {
+        WillsReadFirst x = Checks.laid("p60,1,99,0;p0,1,30,0;w1,0,20;w0,1,99;");
+        CHECKS.due("coins(0, 150)", x.coins(0, 150), 81);
+        CHECKS.due("dies(0)", x.dies(0), -4);
+        x.help(0, 59, 9);
+        CHECKS.due("coins(0, 59), unborn", x.coins(0, 59), 0);
+        CHECKS.due("coins(0, 150) behind help", x.coins(0, 150), 81);
+        CHECKS.due("brought(0), to the unborn", x.brought(0), 0);
+        CHECKS.due("inherited(0)", x.inherited(0), 0);
+        WillsReadFirst y = Checks.laid("p0,1,30,0;p0,0,99,0;p0,0,99,0;w0,1,20;w0,2,1;");
+        CHECKS.due("brought(0)", y.brought(0), 20);
+        CHECKS.due("brought(1)", y.brought(1), 1);
+        y.reword(0, 99);
+        CHECKS.due("brought(0) behind reword", y.brought(0), 21);
+        CHECKS.due("brought(1) behind reword", y.brought(1), 0);
+        CHECKS.due("inherited(2) behind reword", y.inherited(2), 0);
+        CHECKS.due("having() behind reword", y.having(), 0);
     }
 
     private static void checkWrongNumbers() {
