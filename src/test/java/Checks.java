@@ -2,14 +2,29 @@ import java.util.stream.IntStream;
 
 /** What the tests of the project share: how an answer is compared, and how a text is laid. */
 final class Checks {
+    private static final long MOST_MILLIS = 240_000;
     private final String name;
-    private String words = "";
+    private volatile String words = "";
     private int checkedOfPromise = 1;
     private int checked = 0;
     private int wrong = 0;
 
     Checks(String name) {
         this.name = name;
+        Thread watch = new Thread(this::endIfTooLong);
+        watch.setDaemon(true);
+        watch.start();
+    }
+
+    /** A call that never ends would keep .ci/run from failing. */
+    private void endIfTooLong() {
+        try {
+            Thread.sleep(MOST_MILLIS);
+        } catch (InterruptedException e) {
+            return;
+        }
+        System.out.println(name + ": " + words + "a call does not end");
+        Runtime.getRuntime().halt(1);
     }
 
     /** The promise, and the words of the document, that the checks from here on hold the program to; see DocTest. */

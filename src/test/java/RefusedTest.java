@@ -7,7 +7,7 @@ import java.util.function.ToIntFunction;
 
 /**
  * "Nothing changes then": behind each refused call all that an object answers is as without it, what can still be
- * undone and what is kept too. The same holds behind each question.
+ * undone and what is kept too. The same holds behind each question, and behind what was told and taken back.
  */
 public final class RefusedTest {
     private static final Checks CHECKS = new Checks("RefusedTest");
@@ -22,6 +22,7 @@ public final class RefusedTest {
         refusedKept();
         firstOfSeveral();
         questions();
+        takenBack();
         CHECKS.finish();
     }
 
@@ -41,11 +42,13 @@ public final class RefusedTest {
     private static List<Integer> everything(WillsReadFirst x) {
         List<Integer> all = new ArrayList<>();
         state(x, all);
-        for (int left = x.undo(), n = 0; n < 9; left = x.undo(), n++) {
+        for (int left = 0, n = 0; left >= 0 && n < 9; n++) {
+            left = x.undo();
             all.add(left);
             bequests(x, all);
         }
-        for (int left = x.back(), n = 0; n < 3; left = x.back(), n++) {
+        for (int left = 0, n = 0; left >= 0 && n < 3; n++) {
+            left = x.back();
             all.add(left);
             bequests(x, all);
         }
@@ -293,5 +296,49 @@ public final class RefusedTest {
         question("ring(0)", x -> x.ring(0));
         CHECKS.promise(24, "OWES.");
         question("owes(0)", x -> x.owes(0));
+    }
+
+    private static WillsReadFirst busyWithoutText() {
+        return made(x -> {
+            x.help(1, 20, 5);
+            x.reword(0, 30);
+            x.keep();
+            x.pass(1, 3);
+        });
+    }
+
+    private static void takenBack(String calls, Consumer<WillsReadFirst> told) {
+        WillsReadFirst x = busyWithoutText();
+        told.accept(x);
+        same(calls, x, busyWithoutText());
+    }
+
+    private static void takenBack() {
+        CHECKS.promise(3, "THE TEXT is empty:");
+        takenBack("write and wipe", x -> {
+            Checks.write(x, "p0,1,20,0;p1,1,20,0;");
+            x.wipe();
+        });
+        CHECKS.promise(26, "Nothing is SEEN:");
+        takenBack("seen and forget", x -> {
+            x.seen(0, 20, 1);
+            x.seen(1, 20, 1);
+            x.forget();
+        });
+        CHECKS.promise(11, "UNDONE is the latest of these");
+        takenBack("reword and undo", x -> {
+            x.reword(0, 99);
+            x.undo();
+        });
+        takenBack("pass and undo", x -> {
+            x.pass(4, 0);
+            x.undo();
+        });
+        takenBack("help and undo", x -> {
+            x.help(0, 20, 9);
+            x.help(3, 20, 9);
+            x.undo();
+            x.undo();
+        });
     }
 }

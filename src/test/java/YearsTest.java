@@ -425,5 +425,26 @@ public final class YearsTest {
         CHECKS.due("brought(1) behind reword", y.brought(1), 0);
         CHECKS.due("inherited(2) behind reword", y.inherited(2), 0);
         CHECKS.due("having() behind reword", y.having(), 0);
+        nothingStaysOfWhatWasBrought();
+    }
+
+    private static void nothingStaysOfWhatWasBrought() {
+        CHECKS.promise(15, "BROUGHT.");
+        WillsReadFirst x = Checks.laid("p60,9,99,0;p60,0,99,0;p0,0,20,0;w0,1,90;w0,1,9;");
+        CHECKS.due("brought(0)", x.brought(0), 90);
+        CHECKS.due("brought(1)", x.brought(1), 9);
+        x.pass(0, 2);
+        CHECKS.due("brought(0), passed on to one dead", x.brought(0), 0);
+        CHECKS.due("brought(1) behind pass", x.brought(1), 9);
+        x.pass(1, 2);
+        CHECKS.due("brought(1), passed on to one dead", x.brought(1), 0);
+        x.undo();
+        CHECKS.due("brought(1) behind undo", x.brought(1), 9);
+        WillsReadFirst y = Checks.laid("p60,1,99,0;p60,0,99,0;w0,1,81;");
+        CHECKS.due("brought(0) in the last year", y.brought(0), 81);
+        y.reword(0, 82);
+        CHECKS.due("brought(0), nobody dies", y.brought(0), 0);
+        CHECKS.due("inherited(1), nobody dies", y.inherited(1), 0);
+        CHECKS.due("dies(0), nobody dies", y.dies(0), -4);
     }
 }
